@@ -868,7 +868,7 @@ public final class GrazedNames {
          */
         private boolean wasReached(int p, int meadow, int harm) {
             long key = (made << 3 | p) << 20 | meadow;
-            int at = Math.floorMod(key, REMEMBERED);
+            int at = (int) Math.floorMod(key, (long) REMEMBERED);
             if (reached[at] >> HARM_BITS == key && (reached[at] & HARM_MASK) <= harm) {
                 return true;
             }
@@ -1017,14 +1017,16 @@ public final class GrazedNames {
         long asked;
 
         int worth(int kind, int p, Told told, Now now) {
-            if (kind < NAME || kind >= MARK.length) {
-                return NO;
-            }
+            return kind < NAME || kind >= MARK.length ? NO : askBody(kind, p, told, now);
+        }
+
+        /** The body of a kind; each kind's number is above that of the one above it, so it ends at the first. */
+        private int askBody(int kind, int p, Told told, Now now) {
             asked += MARK[kind];
             if (kind == NAME) {
                 return told.strength[p];
             }
-            int up = worth(ABOVE[kind], p, told, now);
+            int up = askBody(ABOVE[kind], p, told, now);
             switch (kind) {
                 case MARY:
                     return up + now.tired[p];

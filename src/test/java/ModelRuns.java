@@ -30,7 +30,7 @@ public final class ModelRuns {
             runs.read(runs.spoilt(runs.goodText()));
             runs.lookAtAll();
         }
-        for (int seed = 0; seed < 60; seed++) {
+        for (int seed = 0; seed < 150; seed++) {
             new ModelRuns(10000 + seed).planContested();
         }
         CHECKS.end();
@@ -51,9 +51,10 @@ public final class ModelRuns {
         }
         text.append('m').append(between(1, 3)).append(";r").append(between(2, 6)).append(';');
         read(text.toString());
-        if (model.planCost(n) <= 600000) {
-            for (int p = -1; p < names; p++) {
-                due("plan(" + n + ", " + p + ") of " + text, x.plan(n, p), model.plan(n, p));
+        if (model.planCost(n) <= 4000000) {
+            due("plan(" + n + ", -1) of " + text, x.plan(n, -1), model.plan(n, -1));
+            for (int p = 0; p < names; p++) {
+                due("plan(" + n + ", " + p + ") of " + text, x.plan(n, p), model.latestPlan(p));
             }
         }
     }

@@ -170,6 +170,25 @@ public final class PromiseRuns {
         fault("m1 |2;");
         fault("m|x");
         fault("m1|x;");
+        fullTexts();
+    }
+
+    /** Texts that end with the last letter there may be, in the midst of each kind of token. */
+    private static void fullTexts() {
+        items(" ".repeat(180), 0);
+        items("m1;" + " ".repeat(177), 1);
+        items(" ".repeat(177) + "m1;", 1);
+        fault("|" + "0".repeat(180));
+        fault(" ".repeat(177) + "m|99");
+        fault(" ".repeat(178) + "m1|");
+        fault(" ".repeat(179) + "n|");
+        fault(" ".repeat(179) + "|;");
+        fault("n1 0 0" + " ".repeat(174) + "|");
+        fault("|" + ";".repeat(180));
+        GrazedNames x = new GrazedNames();
+        Checks.tell(x, " ".repeat(177) + "m3;;");
+        due("4: a letter too many did not come", x.meadow(), 1);
+        due("4: read to the last letter", x.count(2), 3);
     }
 
     private static void meadowAnew() {

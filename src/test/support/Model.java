@@ -346,6 +346,11 @@ final class Model {
         return p == -1 ? leastHarm : bestBits[p];
     }
 
+    /** What plan() of a name would answer for the n of the latest plan. */
+    int latestPlan(int p) {
+        return bestBits[p];
+    }
+
     int law(int t) {
         if (t < 0 || t > 30) {
             return BAD;
