@@ -1020,7 +1020,7 @@ public final class GrazedNames {
             return kind < NAME || kind >= MARK.length ? NO : askBody(kind, p, told, now);
         }
 
-        /** The body of a kind; each kind's number is above that of the one above it, so it ends at the first. */
+        /** What a kind does; the kind above bears a lower number, so the asking ends at NAME. */
         private int askBody(int kind, int p, Told told, Now now) {
             asked += MARK[kind];
             if (kind == NAME) {
