@@ -95,10 +95,7 @@ public final class PromiseRuns {
     }
 
     private static void items(String text, int want) {
-        GrazedNames x = new GrazedNames();
-        Checks.tell(x, text);
-        due("4: meadow() of '" + text + "'", x.meadow(), want);
-        due("4: letters left of '" + text + "'", x.count(7), want >= 0 ? 0 : text.length());
+        CHECKS.reads(text, want);
     }
 
     private static void meadowItems() {
@@ -114,11 +111,8 @@ public final class PromiseRuns {
         items("n1 0 0;a0 0 1 1;a0 0 1 1;a0 0 1 1;a0 0 1 1;a0 0 1 1;a0 0 1 1;a0 0 1 1;a0 0 1 1;a0 0 1 1;a0 0 1 1;", 11);
     }
 
-    /** The fault stands where the bar is. */
     private static void fault(String text) {
-        int place = text.indexOf('|');
-        String told = text.substring(0, place) + text.substring(place + 1);
-        items(told, -10 - place);
+        CHECKS.fault(text);
     }
 
     private static void meadowFaults() {
