@@ -20,6 +20,7 @@ public final class AheadEdges {
         planLost();
         planAnew();
         again();
+        planOfTheNextText();
         planOfTheLastCall();
         tenActs();
         metAsTold();
@@ -224,6 +225,25 @@ public final class AheadEdges {
             due("round " + round + ", law(9)", x.law(9), 13);
             due("round " + round + ", law(10)", x.law(10), 16);
             due("round " + round + ", BEST", x.now(5), 0);
+        }
+    }
+
+    /** Behind more names, behind none, and with a plan made of each: nothing of an earlier plan is left. */
+    private static void planOfTheNextText() {
+        CHECKS.says("THE TEXT tells all anew");
+        String three = "n9 9 0;n9 9 0;n1 1 0;a1 0 5 3;a1 1 5 4;a1 2 9 9;m1;r5;";
+        String six = "n1 1 0;".repeat(6) + "a0 0 9 1;a0 1 9 2;a0 2 9 3;a0 3 9 4;a0 4 9 5;a0 5 9 6;";
+        String[] texts = {six, three, "", three, six};
+        int[] harms = {21, 12, 0, 12, 21};
+        int[] bits = {0, 1, BAD, 1, 0};
+        int[] laws = {21, 16, 0, 16, 21};
+        GrazedNames x = new GrazedNames();
+        for (int i = 0; i < texts.length; i++) {
+            Checks.tell(x, texts[i]);
+            x.meadow();
+            due("plan(2, -1) of '" + texts[i] + "'", x.plan(2, -1), harms[i]);
+            due("plan(2, 1) of '" + texts[i] + "'", x.plan(2, 1), bits[i]);
+            due("law(30) of '" + texts[i] + "'", x.law(30), laws[i]);
         }
     }
 
