@@ -52,9 +52,9 @@ public final class LanguageRules {
             }
         }
         CHECKS.holds("the methods are the document's: " + methods, methods.equals(new TreeSet<>(Arrays.asList(FACE))));
-        for (Method m : GrazedNames.class.getDeclaredMethods()) {
-            boolean hidden = Modifier.isPrivate(m.getModifiers());
-            CHECKS.holds(m + " bears no public name", !hidden || !names.contains(m.getName()));
+        bearNoPublicName(GrazedNames.class, names);
+        for (Class<?> inside : GrazedNames.class.getDeclaredClasses()) {
+            bearNoPublicName(inside, names);
         }
         Set<String> constants = new TreeSet<>();
         for (Field f : GrazedNames.class.getDeclaredFields()) {
@@ -68,6 +68,13 @@ public final class LanguageRules {
         CHECKS.holds("one constructor", made.length == 1 && made[0].getParameterCount() == 0);
         CHECKS.holds("public", made.length == 1 && Modifier.isPublic(made[0].getModifiers()));
         CHECKS.due("public and final", GrazedNames.class.getModifiers(), Modifier.PUBLIC | Modifier.FINAL);
+    }
+
+    private static void bearNoPublicName(Class<?> c, Set<String> names) {
+        for (Method m : c.getDeclaredMethods()) {
+            boolean isFace = Modifier.isPublic(m.getModifiers());
+            CHECKS.holds(m + " bears no public name", isFace || !names.contains(m.getName()));
+        }
     }
 
     private static void members() {
